@@ -1,0 +1,109 @@
+/** Promise 6: hang; and how the keeper finds a driver that hangs. */
+public final class HangTest {
+    public static void main(String[] args) {
+        answers();
+        wellDriverGoesOn();
+        hangsWithJob();
+        hangsBehindItsAnswer();
+        noRoomForAsking();
+        askedAheadOfJob();
+        Check.end();
+    }
+
+    private static void answers() {
+        ServerHouse h = new ServerHouse();
+        Check.due("hang", h.hang(), true);
+        Check.due("it hangs", h.count(3), 2);
+        Check.due("hang again", h.hang(), false);
+        Check.due("no crash of itself", h.count(8), 0);
+        h.crash();
+        Check.due("hang of the dead", h.hang(), false);
+        h.steps(25);
+        Check.due("a new life does not hang", h.count(3), 1);
+        Check.due("it may hang again", h.hang(), true);
+    }
+
+    private static void wellDriverGoesOn() {
+        ServerHouse h = new ServerHouse();
+        Check.stepTo(h, 108);
+        Check.due("nine turns: nothing was sent", h.count(13), 0);
+        Check.stepTo(h, 109);
+        Check.mail(h, 1, 0, 0, 40, 0, 0, 0);
+        Check.stepTo(h, 110);
+        Check.due("it took the 40", h.inbox(1), 0);
+        Check.mail(h, 0, 0, 1, 41, 0, 0, 0);
+        Check.stepTo(h, 121);
+        Check.due("the keeper took the 41", h.inbox(0), 0);
+        Check.stepTo(h, 12 * 1000);
+        Check.due("it never crashed", h.count(8), 0);
+        Check.due("40 and 41 at every tenth turn", h.count(13), 200);
+    }
+
+    private static void hangsWithJob() {
+        ServerHouse h = new ServerHouse();
+        Check.asked(h, 4, Check.OPEN, 0, 0, 0);
+        h.call(4, Check.WRITE, 0, 3);
+        Check.stepTo(h, 26);
+        Check.due("it has a job", h.count(5), 1);
+        h.hang();
+        Check.stepTo(h, 228);
+        Check.due("nothing was done", h.disk(0, 0), 0);
+        Check.due("it has its job still", h.count(5), 1);
+        Check.stepTo(h, 229);
+        Check.due("the keeper let it crash", h.count(3), 0);
+        Check.due("crashes", h.count(8), 1);
+        h.until(4, 20000);
+        Check.due("all was done in the next life", h.disk(0, 0), 3);
+        Check.due("life", h.count(2), 2);
+    }
+
+    private static void hangsBehindItsAnswer() {
+        ServerHouse h = new ServerHouse();
+        Check.stepTo(h, 110);
+        h.hang();
+        Check.stepTo(h, 229);
+        Check.due("41 was taken: no crash at the 20th turn", h.count(8), 0);
+        Check.mail(h, 1, 0, 0, 40);
+        Check.stepTo(h, 348);
+        Check.due("not ahead of the 30th", h.count(8), 0);
+        Check.stepTo(h, 349);
+        Check.due("crash at the 30th", h.count(8), 1);
+    }
+
+    private static void noRoomForAsking() {
+        ServerHouse h = new ServerHouse();
+        h.hang();
+        Check.stepTo(h, 108);
+        Check.forceTimes(h, 0, 1, 12);
+        Check.stepTo(h, 12 * 60);
+        Check.due("the keeper can but send 40 again", h.count(8), 0);
+        Check.due("which never went", h.count(13), 12);
+        h.crash();
+        Check.stepTo(h, 12 * 60 + 36);
+        Check.due("the turn at which it is dead is the last of these", h.count(3), 0);
+        Check.stepTo(h, 12 * 60 + 37);
+        Check.due("then three", h.count(2), 2);
+    }
+
+    private static void askedAheadOfJob() {
+        ServerHouse h = new ServerHouse();
+        Check.asked(h, 4, Check.OPEN, 0, 0, 0);
+        Check.stepTo(h, 96);
+        h.call(4, Check.WRITE, 0, 3);
+        Check.stepTo(h, 108);
+        Check.mail(h, 1, 0, 2, 21);
+        Check.forceTimes(h, 2, 1, 2);
+        Check.stepTo(h, 110);
+        Check.due("40 was the last, and is taken first", h.inbox(1), 3);
+        Check.mail(h, 1, 0, 2, 21);
+        Check.due("no job yet", h.count(5), 0);
+        Check.stepTo(h, 122);
+        Check.due("now its job", h.count(5), 1);
+        Check.due("forced ones wait", h.inbox(1), 2);
+        Check.stepTo(h, 134);
+        Check.due("the job is done ahead of forced ones", h.inbox(1), 2);
+        Check.due("on the disk", h.disk(0, 0), 3);
+        Check.stepTo(h, 146);
+        Check.due("then a forced one is taken", h.inbox(1), 1);
+    }
+}
