@@ -91,6 +91,8 @@ public final class ServerHouse {
     private final ProcessServer processes;
     private final Users users;
     private int stepsDone;
+    // Kept beside the steps: those may wrap around one day, an index must not.
+    private int next;
     private int crashes;
 
     public ServerHouse() {
@@ -101,6 +103,7 @@ public final class ServerHouse {
         processes = new ProcessServer();
         users = new Users();
         stepsDone = 0;
+        next = 0;
         crashes = 0;
     }
 
@@ -242,7 +245,7 @@ public final class ServerHouse {
             case 0:
                 return stepsDone;
             case 1:
-                return stepsDone % PARTS;
+                return next;
             case 2:
                 return core.driverLife;
             case 3:
@@ -273,7 +276,8 @@ public final class ServerHouse {
     }
 
     private void giveTurn() {
-        int part = stepsDone % PARTS;
+        int part = next;
+        next = part + 1 < PARTS ? part + 1 : 0;
         stepsDone++;
         if (part == KEEPER) {
             // Turns that only send again count too: the document says "of all that it had".
@@ -328,14 +332,8 @@ public final class ServerHouse {
         int c;
         // Which life of its receiver it is for; only the file server's to the driver tell one.
         int life = ANY_LIFE;
-        // Where it is to go as soon as there is room; NONE if nobody holds it back.
+        // Where it found no room, and so is to go again; NONE if it is not held back.
         int heldFor = NONE;
-        // Whether it stays with its sender when the other's inbox is full.
-        final boolean stays;
-
-        Message(boolean stays) {
-            this.stays = stays;
-        }
 
         void write(int from, int newKind, int first, int second) {
             sender = from;
@@ -344,6 +342,7 @@ public final class ServerHouse {
             b = second;
             c = 0;
             life = ANY_LIFE;
+            heldFor = NONE;
         }
 
         void setNumbers(int[] source, int start) {
@@ -374,7 +373,7 @@ public final class ServerHouse {
 
         Box() {
             for (int i = 0; i < BOX_SIZE; i++) {
-                row[i] = new Message(false);
+                row[i] = new Message();
             }
             size = 0;
         }
@@ -440,7 +439,7 @@ public final class ServerHouse {
         final boolean[] lives = new boolean[PARTS];
         // What each part sent last, and still holds if there was no room for it.
         private final Message[] drafts = new Message[PARTS];
-        private final Message loose = new Message(false);
+        private final Message loose = new Message();
         int driverLife = 1;
         int forbidden;
         int passed;
@@ -448,7 +447,7 @@ public final class ServerHouse {
         Core() {
             for (int i = 0; i < PARTS; i++) {
                 boxes[i] = new Box();
-                drafts[i] = new Message(true);
+                drafts[i] = new Message();
                 lives[i] = i <= FIRST_USER;
             }
         }
@@ -469,7 +468,7 @@ public final class ServerHouse {
             }
         }
 
-        /** Sends what is lost if there is no room for it: a user's call, or a forced message. */
+        /** Sends a user's call or a forced message: no turn sends these again if there is no room. */
         int postLoose(int from, int to, int kind, int a, int b) {
             loose.write(from, kind, a, b);
             return post(loose, to);
@@ -497,7 +496,7 @@ public final class ServerHouse {
             }
             Message last = boxes[to].grow();
             if (last == null) {
-                m.heldFor = m.stays ? to : NONE;
+                m.heldFor = to;
                 return FULL;
             }
             last.copy(m);
@@ -813,6 +812,12 @@ public final class ServerHouse {
                 return;
             }
             switch (m.kind) {
+                case OPEN:
+                    core.send(FILES, m.sender, ANSWER, openFile(m.sender, m.a), 0);
+                    break;
+                case REMOVE:
+                    core.send(FILES, m.sender, ANSWER, removeFile(m.a), 0);
+                    break;
                 case READ:
                     read(core, m.sender, m.a);
                     break;
@@ -833,23 +838,19 @@ public final class ServerHouse {
                     open.closeAll(m.a);
                     core.send(FILES, PROCESSES, OPEN_DONE, 0, 0);
                     break;
-                case FORCED:
+                case CLOSE:
+                case SEEK:
+                case SIZE:
+                    core.send(FILES, m.sender, ANSWER, handle(m.sender, m.kind, m.a, m.b), 0);
                     break;
                 default:
-                    core.send(FILES, m.sender, ANSWER, serve(m.sender, m.kind, m.a, m.b), 0);
                     break;
             }
         }
 
-        /** The answer to a call that needs no block. */
-        private int serve(int u, int kind, int a, int b) {
-            if (kind == OPEN) {
-                return openFile(u, a);
-            }
-            if (kind == REMOVE) {
-                return removeFile(a);
-            }
-            int f = open.fileAt(u, a);
+        /** The answer to a close, a seek or a size of a descriptor. */
+        private int handle(int u, int kind, int d, int place) {
+            int f = open.fileAt(u, d);
             if (f == NONE) {
                 return NOT_OPEN;
             }
@@ -857,13 +858,13 @@ public final class ServerHouse {
                 return table.sizeOf(f);
             }
             if (kind == CLOSE) {
-                open.set(u, a, NONE, 0);
+                open.set(u, d, NONE, 0);
                 return 0;
             }
-            if (b < 0 || b > table.sizeOf(f)) {
+            if (place < 0 || place > table.sizeOf(f)) {
                 return WRONG_NUMBER;
             }
-            open.setPlace(u, a, b);
+            open.setPlace(u, d, place);
             return 0;
         }
 
@@ -909,14 +910,14 @@ public final class ServerHouse {
         }
 
         private void write(Core core, int u, int d, int v) {
-            int refusal = whyNotWrite(u, d);
+            int f = open.fileAt(u, d);
+            int place = open.placeAt(u, d);
+            int refusal = whyNotWrite(f, place);
             if (refusal != 0) {
                 core.send(FILES, u, ANSWER, refusal, 0);
                 return;
             }
             takeInHand(u, d, false, v);
-            int f = open.fileAt(u, d);
-            int place = open.placeAt(u, d);
             if (!table.needsBlock(f, place)) {
                 block = table.blockOf(f, place / BLOCK_SIZE);
                 ask(core, FETCH);
@@ -930,9 +931,7 @@ public final class ServerHouse {
         }
 
         /** The answer to a write that is refused, else 0. */
-        private int whyNotWrite(int u, int d) {
-            int f = open.fileAt(u, d);
-            int place = open.placeAt(u, d);
+        private int whyNotWrite(int f, int place) {
             if (f == NONE) {
                 return NOT_OPEN;
             }

@@ -5,6 +5,7 @@ public final class CrashTest {
         startedAnew();
         dueToAskAnew();
         anotherLife();
+        usersAreOfNoLife();
         heldByDriverIsGone();
         countsFromZero();
         newLifeIsHeld();
@@ -96,6 +97,18 @@ public final class CrashTest {
         Check.due("the answer", h.user(4, 2), 100);
     }
 
+    /** A file server that was not told of the new life yet still answers users. */
+    private static void usersAreOfNoLife() {
+        ServerHouse h = Check.withNumbers(1);
+        h.crash();
+        int third = h.count(0) / 12 * 12 + 12 * 3 + 1;
+        Check.stepTo(h, third - 1);
+        h.call(4, Check.SIZE, 0, 0);
+        Check.stepTo(h, third + 2);
+        Check.mail(h, 2, 0, 0, 42, 2);
+        Check.mail(h, 4, 0, 2, 50, 1);
+    }
+
     private static void heldByDriverIsGone() {
         ServerHouse h = new ServerHouse();
         Check.asked(h, 4, Check.OPEN, 0, 0, 0);
@@ -108,8 +121,10 @@ public final class CrashTest {
         Check.due("it was written", h.disk(0, 0), 5);
         Check.due("22 found the inbox full", h.message(2, 11, 1), 0);
         h.crash();
-        h.steps(12 * 3);
-        Check.due("no 22 came from the dead", h.message(2, 8, 1), 0);
+        Check.stepTo(h, 74);
+        Check.due("it had its first turn in a new life", h.count(2), 2);
+        Check.mail(h, 2, 9, 0, 42, 2);
+        Check.due("no 22 came", h.inbox(2), 10);
         h.until(4, 20000);
         Check.due("written anew in the next life", h.file(0, 0), 1);
         Check.due("life", h.count(2), 2);

@@ -6,6 +6,7 @@ public final class FileTest {
         sizeGrowsLast();
         writeInTheMiddle();
         removing();
+        removingOthersStay();
         fillTheDisk();
         Check.end();
     }
@@ -119,6 +120,22 @@ public final class FileTest {
             Check.due("the others are 0", h.disk(0, k), 0);
         }
         Check.due("the next block stays", h.disk(1, 0), 108);
+    }
+
+    private static void removingOthersStay() {
+        ServerHouse h = Check.withNumbers(1);
+        Check.asked(h, 4, Check.OPEN, 1, 0, 1);
+        Check.asked(h, 4, Check.CLOSE, 1, 0, 0);
+        Check.asked(h, 4, Check.REMOVE, 1, 0, 0);
+        Check.due("an empty file had no block", h.count(11), 23);
+        Check.asked(h, 4, Check.OPEN, 2, 0, 1);
+        for (int i = 0; i < 8; i++) {
+            Check.asked(h, 4, Check.WRITE, 1, i, 0);
+        }
+        Check.asked(h, 4, Check.CLOSE, 1, 0, 0);
+        Check.asked(h, 4, Check.REMOVE, 2, 0, 0);
+        Check.due("eight numbers had one", h.count(11), 23);
+        Check.due("the other's block", h.file(0, 1), 0);
     }
 
     private static void fillTheDisk() {
