@@ -540,12 +540,17 @@ public final class ServerHouse {
                 return false;
             }
             Message m = core.boxes[KEEPER].take(0);
+            if (m != null && m.kind == FORCED) {
+                // Throwing it away was the turn, even where a check was due in it.
+                return false;
+            }
             if (m != null && m.kind == AM_WELL) {
                 unanswered = false;
             }
-            if (turns % CHECK_EVERY != 0) {
-                return false;
-            }
+            return turns % CHECK_EVERY == 0 && check(core);
+        }
+
+        private boolean check(Core core) {
             if (unanswered) {
                 return true;
             }

@@ -7,6 +7,9 @@ public final class HangTest {
         hangsBehindItsAnswer();
         noRoomForAsking();
         askedAheadOfJob();
+        forcedTurnAsksNothing();
+        forcedTurnBreaksNothing();
+        forcedOnesWaitWhileDead();
         Check.end();
     }
 
@@ -105,5 +108,56 @@ public final class HangTest {
         Check.due("on the disk", h.disk(0, 0), 3);
         Check.stepTo(h, 146);
         Check.due("then a forced one is taken", h.inbox(1), 1);
+    }
+
+    private static void forcedTurnAsksNothing() {
+        ServerHouse h = new ServerHouse();
+        Check.stepTo(h, 108);
+        Check.forceTimes(h, 1, 0, 2);
+        Check.stepTo(h, 109);
+        Check.due("throwing one away was the 10th turn", h.inbox(0), 1);
+        Check.due("no 40 in it", h.inbox(1), 0);
+        Check.stepTo(h, 121);
+        Check.due("the other one in the 11th", h.inbox(0), 0);
+        Check.stepTo(h, 228);
+        Check.due("no 40 ahead of the 20th turn", h.count(13), 2);
+        Check.stepTo(h, 229);
+        Check.mail(h, 1, 0, 0, 40, 0, 0, 0);
+
+        ServerHouse g = new ServerHouse();
+        Check.stepTo(g, 96);
+        Check.forceTimes(g, 1, 0, 1);
+        Check.stepTo(g, 109);
+        Check.mail(g, 1, 0, 0, 40, 0, 0, 0);
+    }
+
+    private static void forcedTurnBreaksNothing() {
+        ServerHouse h = new ServerHouse();
+        h.hang();
+        Check.stepTo(h, 228);
+        Check.mail(h, 1, 0, 0, 40);
+        Check.forceTimes(h, 1, 0, 1);
+        Check.stepTo(h, 229);
+        Check.due("the forced one is gone", h.inbox(0), 0);
+        Check.due("no crash at the 20th turn", h.count(8), 0);
+        Check.due("it hangs on", h.count(3), 2);
+        Check.due("nor another 40", h.inbox(1), 1);
+        Check.stepTo(h, 348);
+        Check.due("no crash ahead of the 30th", h.count(8), 0);
+        Check.stepTo(h, 349);
+        Check.due("crash at the 30th", h.count(8), 1);
+    }
+
+    private static void forcedOnesWaitWhileDead() {
+        ServerHouse h = new ServerHouse();
+        Check.stepTo(h, 72);
+        Check.forceTimes(h, 1, 0, 2);
+        h.crash();
+        Check.stepTo(h, 97);
+        Check.due("none was taken, and the third turn starts it", h.count(2), 2);
+        Check.due("they are there still", h.inbox(0), 2);
+        Check.stepTo(h, 109);
+        Check.due("the 10th turn takes the first", h.inbox(0), 1);
+        Check.due("and asks nothing", h.inbox(1), 0);
     }
 }
