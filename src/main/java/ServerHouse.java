@@ -283,7 +283,8 @@ public final class ServerHouse {
             // Turns that only send again count too: the document says "of all that it had".
             keeper.turns++;
         }
-        if (!core.lives[part] || core.sendHeld(part)) {
+        // One that hangs does nothing: it does not even send again what found no room.
+        if (!core.lives[part] || part == DRIVER && driver.hanging || core.sendHeld(part)) {
             return;
         }
         switch (part) {
@@ -579,9 +580,6 @@ public final class ServerHouse {
         private int block;
 
         void takeTurn(Core core) {
-            if (hanging) {
-                return;
-            }
             Box box = core.boxes[DRIVER];
             if (box.take(box.firstOf(ASK_WELL)) != null) {
                 core.send(DRIVER, KEEPER, AM_WELL, 0, 0);
