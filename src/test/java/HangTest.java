@@ -14,6 +14,7 @@ public final class HangTest {
         hangingKeepsItsAnswer();
         hangingKeepsItsNumbers();
         crashTakesWhatWasKept();
+        turnsOfSendingAgainCount();
         Check.end();
     }
 
@@ -260,5 +261,21 @@ public final class HangTest {
         Check.due("the keeper took one", h.inbox(0), 11);
         Check.stepTo(h, 158);
         Check.due("what was kept is gone", h.inbox(0), 11);
+    }
+
+    private static void turnsOfSendingAgainCount() {
+        ServerHouse h = new ServerHouse();
+        h.crash();
+        Check.stepTo(h, 24);
+        Check.forceTimes(h, 3, 2, 12);
+        Check.stepTo(h, 25);
+        Check.due("the third turn starts it", h.count(2), 2);
+        Check.due("42 found no room", h.count(13), 12);
+        Check.stepTo(h, 37);
+        Check.mail(h, 2, 11, 0, 42, 2, 0, 0);
+        Check.stepTo(h, 108);
+        Check.due("no 40 yet", h.inbox(1), 0);
+        Check.stepTo(h, 109);
+        Check.mail(h, 1, 0, 0, 40, 0, 0, 0);
     }
 }

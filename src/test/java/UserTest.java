@@ -54,6 +54,7 @@ public final class UserTest {
         Check.asked(h, 4, Check.FORK, 0, 0, 5);
         Check.due("the latest answer of all lives", h.user(5, 2), -8);
         Check.due("answers of all lives", h.user(5, 3), 2);
+        Check.due("but the code is of this life alone", h.user(5, 5), 0);
         Check.asked(h, 5, Check.PARENT, 0, 0, 4);
         Check.due("one more", h.user(5, 3), 3);
     }
@@ -185,6 +186,9 @@ public final class UserTest {
         Check.due("it lives", h.user(4, 0), 1);
         Check.stepTo(h, 16);
         Check.due("it lives no more", h.user(4, 0), 2);
+        // The document leaves room here: one that lives no more is taken to have no call, and its code, at once.
+        Check.due("its call is gone", h.user(4, 1), 0);
+        Check.due("its code is told", h.user(4, 5), 6);
         Check.due("users that live", h.count(12), 0);
         Check.due("the process server waits", h.count(7), 1);
         Check.mail(h, 2, 0, 3, 31, 4, 0, 0);
