@@ -22,6 +22,7 @@ final class Check {
 
     private static int wrong = 0;
     private static int looked = 0;
+    private static String words = "";
 
     private Check() {
     }
@@ -30,11 +31,16 @@ final class Check {
         int run();
     }
 
+    /** The words of the document that the answers from here on are held against. */
+    static void sentence(String ofTheDocument) {
+        words = "\"" + ofTheDocument + "\": ";
+    }
+
     static void due(String what, long got, long want) {
         looked++;
         if (got != want) {
             wrong++;
-            System.out.println(what + " answered " + got + ", due is " + want);
+            System.out.println(words + what + " answered " + got + ", due is " + want);
         }
     }
 
@@ -73,6 +79,41 @@ final class Check {
             asked(h, 4, WRITE, 0, 100 + i, 0);
         }
         return h;
+    }
+
+    /** A house in which all users live, 5 to 11 as children of 4. */
+    static ServerHouse withFamily() {
+        ServerHouse h = new ServerHouse();
+        for (int child = 5; child <= 11; child++) {
+            asked(h, 4, FORK, 0, 0, child);
+        }
+        return h;
+    }
+
+    /** Writes with as few calls as can be, for tests that would come near the 512th. */
+    static void write(ServerHouse h, int u, int d, int v) {
+        h.call(u, WRITE, d, v);
+        h.until(u, 20000);
+    }
+
+    /**
+     * Goes on to the beginning of a round, and tells its step: the 41 was taken, and the keeper's next 40 goes in
+     * round 8 from there (0 the first).
+     */
+    static int calm(ServerHouse h) {
+        int start = (h.count(0) / 120 + 1) * 120 + 12;
+        stepTo(h, start);
+        return start;
+    }
+
+    /** Up to a part's turn in the given round (0 the first) from a start; that turn is the next then. */
+    static void turnDue(ServerHouse h, int start, int round, int part) {
+        stepTo(h, start + 12 * round + part);
+    }
+
+    /** Up to and with that turn. */
+    static void turnDone(ServerHouse h, int start, int round, int part) {
+        stepTo(h, start + 12 * round + part + 1);
     }
 
     static void forceTimes(ServerHouse h, int from, int to, int times) {

@@ -3,6 +3,7 @@ public final class FileTest {
     public static void main(String[] args) {
         none();
         fillAFile();
+        readAFile();
         sizeGrowsLast();
         writeInTheMiddle();
         removing();
@@ -39,6 +40,14 @@ public final class FileTest {
         }
         Check.asked(h, 4, Check.WRITE, 0, 5, -4);
         Check.asked(h, 4, Check.READ, 0, 0, -5);
+    }
+
+    private static void readAFile() {
+        ServerHouse h = new ServerHouse();
+        Check.asked(h, 4, Check.OPEN, 15, 0, 0);
+        for (int i = 0; i < 32; i++) {
+            Check.write(h, 4, 0, 1000 - i);
+        }
         Check.asked(h, 4, Check.SEEK, 0, 0, 0);
         for (int i = 0; i < 32; i++) {
             Check.asked(h, 4, Check.READ, 0, 0, 1000 - i);

@@ -3,14 +3,17 @@ import java.util.Random;
 
 /** Random runs of at most 512 calls: nothing but the document's exception is thrown, and counts agree. */
 public final class RandomRunTest {
-    private static final int RUNS = 1500;
+    private static final int RUNS = 8000;
+    /** With the looks at the end, a run stays below the 512 calls of the document. */
+    private static final int MOST_CALLS = 120;
 
     public static void main(String[] args) {
         for (int seed = 0; seed < RUNS; seed++) {
             Random random = new Random(seed);
             ServerHouse h = new ServerHouse();
             ServerHouse twin = new ServerHouse();
-            for (int i = 0; i < 400; i++) {
+            int calls = 1 + random.nextInt(MOST_CALLS);
+            for (int i = 0; i < calls; i++) {
                 int[] call = new int[5];
                 call[0] = random.nextInt(24);
                 for (int k = 1; k < 5; k++) {
@@ -18,10 +21,8 @@ public final class RandomRunTest {
                 }
                 String got = answer(h, call);
                 Check.due("the same calls, the same answers", got.equals(answer(twin, call)), true);
-                if (i % 8 == 0) {
-                    look(h, "run " + seed + " call " + i + ": ");
-                }
             }
+            look(h, "run " + seed + ": ");
         }
         Check.end();
     }
