@@ -16,6 +16,7 @@ public final class DriverEdgesTest {
         armAtZeroInEachLife();
         crashTakesAll();
         crashTakesWhatWasFull();
+        crashTakesFullNumbers();
         Check.end();
     }
 
@@ -295,5 +296,28 @@ public final class DriverEdgesTest {
         Check.due("the keeper has room again", h.inbox(0), 11);
         Check.stepTo(h, 158);
         Check.due("nothing comes of the life before", h.inbox(0), 11);
+    }
+
+    private static void crashTakesFullNumbers() {
+        Check.sentence("A CRASH: .. what was FULL are gone.");
+        ServerHouse h = new ServerHouse();
+        Check.asked(h, 4, Check.OPEN, 0, 0, 0);
+        h.call(4, Check.WRITE, 0, 5);
+        Check.stepTo(h, 37);
+        Check.forceTimes(h, 3, 2, 12);
+        Check.stepTo(h, 38);
+        Check.due("it was written", h.disk(0, 0), 5);
+        Check.due("22 is full", h.message(2, 11, 1), 0);
+        h.crash();
+        Check.stepTo(h, 74);
+        Check.due("the first turn of a new life", h.count(2), 2);
+        for (int k = 0; k < 9; k++) {
+            Check.due("no 22 of the life before", h.message(2, k, 1), 0);
+        }
+        Check.mail(h, 2, 9, 0, 42, 2);
+        Check.due("which is the last", h.inbox(2), 10);
+        Check.due("the write is not done", h.file(0, 0), 0);
+        h.until(4, 1000);
+        Check.due("but in that life", h.file(0, 0), 1);
     }
 }

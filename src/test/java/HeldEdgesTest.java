@@ -14,7 +14,8 @@ public final class HeldEdgesTest {
         answerByFilesIsLost();
         fetchStays();
         storeStays();
-        fetchIsLost();
+        askedDriverIsLost(1, Check.READ, 20, 100);
+        askedDriverIsLost(0, Check.WRITE, 21, 0);
         doneStays();
         copyStays();
         closeStays();
@@ -243,9 +244,9 @@ public final class HeldEdgesTest {
         Check.due("the number", h.disk(0, 0), 5);
     }
 
-    private static void fetchIsLost() {
+    private static void askedDriverIsLost(int numbers, int kind, int message, int answer) {
         Check.sentence(UNTIL);
-        ServerHouse h = withAskedDriverFull(1, Check.READ);
+        ServerHouse h = withAskedDriverFull(numbers, kind);
         int start = h.count(0) - 15;
         int passed = h.count(13);
         h.crash();
@@ -259,9 +260,10 @@ public final class HeldEdgesTest {
         Check.turnDone(h, start, 4, 1);
         Check.due("42 alone went", h.count(13), passed + 1);
         Check.turnDone(h, start, 4, 2);
-        Check.mail(h, 1, 0, 2, 20, 0, 0, 0);
+        Check.mail(h, 1, 0, 2, message, 0, 0, 0);
         h.until(4, 1000);
-        Check.due("the answer", h.user(4, 2), 100);
+        Check.due("the answer", h.user(4, 2), answer);
+        Check.due("the number", h.disk(0, 0), kind == Check.READ ? 100 : 5);
     }
 
     private static void doneStays() {

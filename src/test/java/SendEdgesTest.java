@@ -248,15 +248,14 @@ public final class SendEdgesTest {
     private static void dead() {
         Check.sentence("2 DEAD: the other one does not live");
         ServerHouse h = Check.withFamily();
-        int passed = h.count(13);
         Check.due("one that lives", h.force(3, 9), 0);
         h.call(9, Check.EXIT, 0, 0);
-        int start = Check.calm(h);
+        h.steps(36);
         Check.due("one that ended and is waited for", h.force(3, 9), 2);
         Check.due("by the file server too", h.force(2, 9), 2);
         Check.asked(h, 4, Check.WAIT, 0, 0, 9 * 256);
         Check.due("one that is free", h.force(2, 9), 2);
-        start = Check.calm(h);
+        int start = Check.calm(h);
         h.call(8, Check.EXIT, 0, 0);
         Check.turnDone(h, start, 0, 3);
         Check.due("one of whose end 2 was not heard of yet", h.force(2, 8), 2);
